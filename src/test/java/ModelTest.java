@@ -289,11 +289,12 @@ public final class ModelTest {
     }
 
     private static void wholeSheets(int run) {
-        PostDrawer x = new PostDrawer(run);
-        Model m = new Model(run);
-        x.draw(1, 15);
-        m.draw(1, 15);
         for (int sheet = 0; sheet < 16; sheet++) {
+            // A new object for each sheet: all of them would be more than its 512 calls.
+            PostDrawer x = new PostDrawer(run);
+            Model m = new Model(run);
+            x.draw(1, 15);
+            m.draw(1, 15);
             for (int point = 0; point < 240; point++) {
                 due(run, "point " + point + " of sheet " + sheet,
                     x.point(sheet, point % 12, point / 12), m.point(sheet, point % 12, point / 12));
